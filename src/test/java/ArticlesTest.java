@@ -6,6 +6,7 @@ public final class ArticlesTest {
         whatIsAnArticle();
         whatIsNoArticle();
         whatItMayName();
+        longAndShortTexts();
         promise10Amend();
         amendKeepsAndChanges();
         promise26OfArticle();
@@ -77,7 +78,7 @@ public final class ArticlesTest {
 
     private static void whatIsNoArticle() {
         String[] wrong = {" ", "m", "m0", "m0c", "m0c0", "m0c0=", "m0c=1", "c0m0=1", "m4c0=1", "mxc0=1", "m00c0=1",
-            "m0c4=1", "m0c00=1", "m0c10=1", "m0c021=1", "m0c0123 3=1", "m0c0+6=1", "m0c0+=1", "m0c0-=1", "m0c0-6=1",
+            "m0c4=1", "c0=1", "mc0=1", "m0=1", "m0c05", "m0c0%", "m0c0@0", "m0c0 9", "m0c0=1:", "m0c00=1", "m0c10=1", "m0c021=1", "m0c0123 3=1", "m0c0+6=1", "m0c0+=1", "m0c0-=1", "m0c0-6=1",
             "m0c0+12=1", "m0c0+1 2=1", "m0c0<=1", "m0c0>=1", "m0c0<0001=1", "m0c0<1000=1", "m0c0<1 0=1",
             "m0c0<1<2<3=1", "m0c0>1<2>3=1", "m0c0>1>2>3=1", "m0c0=101", "m0c0=999", "m0c0=0001", "m0c0=1 0",
             "m0c0=10 0", "m0c0=-1", "m0c0=%%", "m0c0=%1", "m0c0=1%", "m0c0=@", "m0c0=@x0", "m0c0=@1", "m0c0=@0 0",
@@ -113,6 +114,26 @@ public final class ArticlesTest {
         Checks.same("the first is LOST", x.ofArticle(0, 8), 3);
         Checks.same("to what is LOST", Checks.write(x, "m0c0=@0x0"), 2);
         Checks.same("EXCEPTIONS to it", x.ofArticle(0, 12), 2);
+    }
+
+    private static void longAndShortTexts() {
+        OnecodeChancery x = new OnecodeChancery();
+        String[] ends = {"=7", "=07", "=007", "=% ", "=1x0", "=@00", "+0=%"};
+        String[] due = {"=7", "=7", "=7", "=%", "=1x0", "=@0", "+0=%"};
+        for (int k = 0; k < ends.length; k++) {
+            String text = "m2c1" + " ".repeat(56 - ends[k].length()) + ends[k];
+            Checks.same("a TEXT of 60 signs with " + ends[k], Checks.write(x, text), k);
+            Checks.same("its text", x.text(k), "m2c1" + due[k]);
+        }
+        x = new OnecodeChancery();
+        Checks.write(x, "m0c0=100");
+        Checks.same("a shorter TEXT after a longer one", Checks.write(x, "m0c0=1"), 1);
+        Checks.same("its text", x.text(1), "m0c0=1");
+        Checks.same("no outcome is left of before", Checks.write(x, "m0c0="), -1);
+        Checks.same("60 blanks", Checks.write(x, " ".repeat(60)), -1);
+        Checks.same("60 signs that end in a condition", Checks.write(x, "m0c0" + "+0".repeat(28)), -1);
+        Checks.same("27 conditions", Checks.write(x, "m0c0" + "+0".repeat(27) + "=1"), 2);
+        Checks.same("its text", x.text(2), "m0c0+0=1");
     }
 
     private static void promise10Amend() {

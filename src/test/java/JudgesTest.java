@@ -50,10 +50,10 @@ public final class JudgesTest {
     /** CASES by CLASS: what the CODE tells, what the CUSTOM, and what each WAY makes of it. */
     private static void theFourWays() {
         int[] codes = {60, 95, 40, 5, 50, -1, 51, 49, 91, 9, 100, 0, 60, -2, 10, -1};
-        int[] customs = {21, 0, 100, 6, 99, 70, -1, -2, 90, 9, 1, 1, 60, 30, 15, -2};
+        int[] customs = {21, 0, 100, 6, 99, 70, -1, -2, 90, 9, 1, 90, 60, 30, 15, -2};
         int[] stretched = {70, 100, 30, 0, 50, -1, 61, 39, 100, 0, 100, 0, 70, -2, 0, -1};
-        int[] resisted = {21, 0, 100, 6, 99, 70, 51, 49, 90, 9, 1, 1, 60, 30, 15, -1};
-        int[] mixed = {40, 47, 70, 5, 74, -1, 51, 49, 90, 9, 50, 0, 60, -2, 12, -1};
+        int[] resisted = {21, 0, 100, 6, 99, 70, 51, 49, 90, 9, 1, 90, 60, 30, 15, -1};
+        int[] mixed = {40, 47, 70, 5, 74, -1, 51, 49, 90, 9, 50, 45, 60, -2, 12, -1};
         int[][] due = {codes, stretched, resisted, mixed};
         OnecodeChancery x = new OnecodeChancery();
         for (int judge = 0; judge < 4; judge++) {

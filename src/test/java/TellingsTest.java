@@ -4,6 +4,7 @@ public final class TellingsTest {
         promise23OfRule();
         promise24OfCase();
         ofWhatDayItIsTold();
+        manyLeftToCustom();
         promise25Tells();
         theCodeAsAWhole();
         circles();
@@ -85,6 +86,34 @@ public final class TellingsTest {
         Checks.same("an act ahead of its end", x.ofCase(3, 10), 70);
         Checks.same("an act at its end", x.ofCase(4, 10), -1);
         Checks.same("an old CASE is told as it was", x.ofCase(1, 10), 20);
+        Checks.same("so is what its ARTICLE tells", x.tells(1, 0), 20);
+        Checks.same("the CUSTOM of the plaintiff's PARISH then", x.ofCase(1, 7), 20);
+        Checks.same("that of the defendant's", x.ofCase(1, 8), 20);
+        Checks.same("and by the TIE", x.ofCase(1, 9), 20);
+        Checks.enact(x, "m0c0=5");
+        x.pass(30);
+        Checks.same("so it is without an ARTICLE of today", x.without(1, 1), 20);
+        Checks.same("CASES that are told against the CUSTOM of their DAY", x.realm(11), 2);
+        x.rule(0, 0, 15, 0, 0, 90, 5);
+        Checks.same("a new RULE makes no difference to them", x.realm(11), 2);
+        Checks.same("nor a new RULE to the old CASE", x.without(1, 1), 20);
+    }
+
+    private static void manyLeftToCustom() {
+        OnecodeChancery x = new OnecodeChancery();
+        Checks.enact(x, "m0c0=%");
+        Checks.enact(x, "m0c1=%");
+        Checks.write(x, "m0c2=%");
+        x.pass(30);
+        x.rule(0, 0, 15, 0, 0, 8, 1);
+        x.dispute(0, 0, 0, 0, 0, 100, 0);
+        x.dispute(0, 0, 1, 0, 0, 100, 0);
+        Checks.same("the first that leaves it to the CUSTOM", x.ofCase(0, 10), 8);
+        Checks.same("the second", x.ofCase(1, 10), 8);
+        Checks.same("nothing else is IN FORCE", x.without(1, 1), -1);
+        Checks.feed(x, "m0c2=3");
+        x.amend(2);
+        Checks.same("a BILL that leaves it to the CUSTOM no more", x.tells(0, 2), 3);
     }
 
     private static void promise25Tells() {
@@ -251,6 +280,10 @@ public final class TellingsTest {
         Checks.same("how many", x.held(2, 1, 1, 50, 1), 21);
         x.people(3, 21);
         Checks.same("of several the smallest one, 0 too", x.held(2, 1, 1, 50, 0), 0);
+        Checks.same("PEOPLE of the PARISH 0 alone", aloneHeld(0, 1, 0), 60);
+        Checks.same("a PARISH of one", aloneHeld(0, 1, 1), 1);
+        Checks.same("the last PARISH alone", aloneHeld(5, 99, 0), 60);
+        Checks.same("and how many", aloneHeld(5, 99, 1), 99);
         x.limit(3, 0, 49);
         Checks.same("by the AMOUNT", x.held(2, 1, 1, 50, 0), 80);
         Checks.refuses("held(4, 0, 64, 0, 0)", Checks.INDEX, () -> x.held(4, 0, 64, 0, 0));
@@ -262,6 +295,15 @@ public final class TellingsTest {
             Checks.refuses("held, values " + java.util.Arrays.toString(w), Checks.ARGUMENT,
                 () -> x.held(0, 0, w[0], w[1], w[2]));
         }
+    }
+
+    /** held() of a realm in which one PARISH alone has a RULE, that was sworn on the DAY 3. */
+    private static int aloneHeld(int parish, int people, int what) {
+        OnecodeChancery x = new OnecodeChancery();
+        x.pass(3);
+        x.people(parish, people);
+        x.rule(parish, 0, 1, 0, 0, 60, 1);
+        return x.held(0, 0, 0, 0, what);
     }
 
     private static void promise38Without() {

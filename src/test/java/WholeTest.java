@@ -4,6 +4,8 @@ public final class WholeTest {
         promise29Grid();
         marksOfTheGrid();
         gridOfEveryKind();
+        allMarksInTheirOrder();
+        gridAfterOtherWalks();
         promise30IsDead();
         promise34Realm();
         promise39IsSound();
@@ -79,6 +81,40 @@ public final class WholeTest {
         sameGrid("as of this DAY", x, 3, 1, 256, 32 + 64, 64, 32, 64, 192, 64);
         x.tie(3, 2);
         sameGrid("both sides of that PARISH", x, 3, 1, 256, 32 + 64, 64, 32, 64, 192, 64);
+        x.tie(3, 1);
+        sameGrid("the defendant's side too", x, 3, 2, 256, 64 + 32, 32, 32, 0, 192 + 32, 64 * 40 + 32 * 7);
+    }
+
+    private static void allMarksInTheirOrder() {
+        OnecodeChancery x = new OnecodeChancery();
+        for (int k = 0; k < 24; k++) {
+            Checks.write(x, "m0c0<" + (990 - 40 * k) + ">" + (k % 2 == 0 ? 500 + k : 500 - k) + "=" + k);
+            Checks.same("MARKS of " + (k + 1), x.grid(0, 0, 0), 256 * (3 + 2 * k));
+        }
+        x = new OnecodeChancery();
+        Checks.enact(x, "m0c0<600=1");
+        Checks.enact(x, "m0c0<500=1");
+        Checks.enact(x, "m0c0<300=10");
+        Checks.enact(x, "m0c0<400=1");
+        Checks.enact(x, "m1c3<1+0+1+2+3+4+5=0");
+        Checks.enact(x, "m1c0>0-0-1-2-3-4-5=100");
+        x.pass(30);
+        sameGrid("MARKS out of order", x, 0, 0, 256 * 5, 256 * 5 - 64 * 4, 64, 0, 4, 0, 64 * 3);
+        sameGrid("a SHARE of 0 and one of 100", x, 1, 0, 512, 510, 0, 0, 0, -1, 100);
+    }
+
+    private static void gridAfterOtherWalks() {
+        OnecodeChancery x = new OnecodeChancery();
+        Checks.enact(x, "m0c1+0<10=5");
+        Checks.enact(x, "m0c1+0>20<900=6");
+        x.pass(30);
+        for (int k = 0; k < 3; k++) {
+            Checks.same("held(2, 3, 63, 999, 3)", x.held(2, 3, 63, 999, 3), 60);
+            sameGrid("after that", x, 0, 0, 1024, 1024 - 64, 0, 0, 0, -1, 32 * 5 + 32 * 6);
+            Checks.same("isDead(" + k % 2 + ", 3)", x.isDead(k % 2, 3), false);
+            sameGrid("after that", x, 0, 0, 1024, 1024 - 64, 0, 0, 0, -1, 32 * 5 + 32 * 6);
+            sameGrid("of another MATTER", x, 1, 3, 256, 256, 0, 0, 0, -1, 0);
+        }
     }
 
     private static void promise30IsDead() {
@@ -106,10 +142,27 @@ public final class WholeTest {
         Checks.same("on each MARK", x.isDead(4, 2), true);
         Checks.lose(x, "m0c0=1");
         Checks.same("what is LOST", x.isDead(7, 0), true);
+        deadButForOneCase();
         Checks.refuses("isDead(8, 0)", Checks.INDEX, () -> x.isDead(8, 0));
         Checks.refuses("isDead(-1, 0)", Checks.INDEX, () -> x.isDead(-1, 0));
         Checks.refuses("isDead(0, 6)", Checks.INDEX, () -> x.isDead(0, 6));
         Checks.refuses("isDead(0, -1)", Checks.INDEX, () -> x.isDead(0, -1));
+    }
+
+    private static void deadButForOneCase() {
+        OnecodeChancery x = new OnecodeChancery();
+        Checks.enact(x, "m0c0-0-1-2-3-4-5<1=0");
+        Checks.enact(x, "m0c3+0+1+2+3+4+5>998=0");
+        Checks.enact(x, "m0c1+0-1=%");
+        x.pass(30);
+        Checks.same("but for the first CASE", x.isDead(0, 5), false);
+        Checks.same("but for the last CASE", x.isDead(1, 5), false);
+        Checks.same("without a CUSTOM", x.isDead(2, 5), true);
+        x.rule(5, 0, 15, 0, 0, 0, 1);
+        Checks.same("with a CUSTOM of this DAY", x.isDead(2, 5), false);
+        Checks.enact(x, "m0c1+0-1=%");
+        x.pass(30);
+        Checks.same("with another that tells the same", x.isDead(2, 5), true);
     }
 
     private static void promise34Realm() {
@@ -132,12 +185,13 @@ public final class WholeTest {
         x.way(0, 1);
         x.judge(0, 0);
         x.judge(1, 1);
+        x.judge(2, 1);
         x.appeal(0);
         x.appeal(1);
         Checks.feed(x, "m0c");
         x.call();
         x.call();
-        int[] due = {30, 1, 4, 7, 2, 2, 2, 1, 3, 2, 1, 2, 3, 2};
+        int[] due = {30, 1, 4, 7, 2, 2, 2, 1, 3, 3, 1, 2, 3, 2};
         for (int what = 0; what <= 13; what++) {
             Checks.same("realm(" + what + ")", x.realm(what), due[what]);
         }
@@ -174,6 +228,11 @@ public final class WholeTest {
         x.rule(0, 0, 15, 0, 0, 25, 1);
         x.rule(2, 0, 1, 1, 2, 35, 3);
         x.limit(1, 3, 500);
+        x.rule(0, 1, 5, 2, 0, 15, 1);
+        x.rule(1, 0, 1, 0, 0, 45, 1);
+        x.limit(3, 100, 100);
+        x.rule(1, 0, 2, 0, 0, 55, 1);
+        x.people(1, 40);
         Checks.enact(x, "m0c01>99=65");
         Checks.enact(x, "m0c0+3=@0x0");
         Checks.enact(x, "m1c2<20=%");
@@ -198,6 +257,29 @@ public final class WholeTest {
         Checks.same("digest() again: nothing is changed", x.digest(), digestOf(x));
         x.pass(40);
         Checks.same("digest() later", x.digest(), digestOf(x));
+        fullRealm();
+    }
+
+    private static void fullRealm() {
+        OnecodeChancery x = new OnecodeChancery();
+        for (int k = 0; k < 40; k++) {
+            x.rule(k % 6, k % 3, 15, k % 2, 0, 2 * k, 1 + k % 5);
+        }
+        for (int k = 0; k < 24; k++) {
+            Checks.write(x, "m" + k % 4 + "c0123=" + (k % 3 == 2 ? "@" + k / 2 : k % 3 == 1 ? "%" : "" + k)
+                + (k % 4 == 3 ? "x" + k / 3 : ""));
+            x.mood(0, k % 4, 5);
+            x.vote(k);
+            x.dispute(k % 6, k % 5, k % 4, k % 3, k % 3, 40 * k, 0);
+        }
+        x.pass(30);
+        for (int k = 0; k < 24; k++) {
+            x.judge(k, k % 4);
+        }
+        Checks.same("realm(1) of a full one", x.realm(1), 40);
+        Checks.same("realm(2) of a full one", x.realm(2), 24);
+        Checks.same("realm(8) of a full one", x.realm(8), 24);
+        Checks.same("digest() of a full one", x.digest(), digestOf(x));
     }
 
     /** The checksum as the document tells it, from the answers of the other calls alone. */
