@@ -390,7 +390,10 @@ public final class RandomRunsTest {
         }
     }
 
-    /** At the end of a run, everything that can be asked. */
+    /**
+     * At the end of a run, everything that can be asked. (These are more than the 512 calls that the document speaks
+     * of; the class counts none and answers on.)
+     */
     private void askAll() {
         Checks.same("run " + run + ", digest", x.digest(), WholeTest.digestOf(x));
         for (int matter = 0; matter < 4; matter++) {

@@ -114,6 +114,16 @@ public final class TellingsTest {
         Checks.feed(x, "m0c2=3");
         x.amend(2);
         Checks.same("a BILL that leaves it to the CUSTOM no more", x.tells(0, 2), 3);
+        Checks.write(x, "m0c0=55");
+        Checks.feed(x, "m0c0=66x1");
+        x.amend(3);
+        x.mood(0, 0, 5);
+        x.vote(3);
+        x.pass(30);
+        x.dispute(0, 0, 0, 0, 0, 100, 0);
+        x.dispute(0, 0, 1, 0, 0, 100, 0);
+        Checks.same("a GENERAL BILL that was made an EXCEPTION is GENERAL no more", x.ofCase(2, 10), 8);
+        Checks.same("what it is an EXCEPTION to, for a CASE to which it does not APPLY", x.ofCase(3, 10), 8);
     }
 
     private static void promise25Tells() {
@@ -280,6 +290,9 @@ public final class TellingsTest {
         Checks.same("how many", x.held(2, 1, 1, 50, 1), 21);
         x.people(3, 21);
         Checks.same("of several the smallest one, 0 too", x.held(2, 1, 1, 50, 0), 0);
+        x.rule(5, 2, 2, 1, 0, 99, 1);
+        x.people(5, 21);
+        Checks.same("whichever comes first", x.held(2, 1, 1, 50, 0), 0);
         Checks.same("PEOPLE of the PARISH 0 alone", aloneHeld(0, 1, 0), 60);
         Checks.same("a PARISH of one", aloneHeld(0, 1, 1), 1);
         Checks.same("the last PARISH alone", aloneHeld(5, 99, 0), 60);

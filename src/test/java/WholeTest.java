@@ -105,14 +105,14 @@ public final class WholeTest {
 
     private static void gridAfterOtherWalks() {
         OnecodeChancery x = new OnecodeChancery();
-        Checks.enact(x, "m0c1+0<10=5");
-        Checks.enact(x, "m0c1+0>20<900=6");
+        Checks.enact(x, "m0c0-0<10=5");
+        Checks.enact(x, "m0c0-0>20<900=6");
         x.pass(30);
         for (int k = 0; k < 3; k++) {
             Checks.same("held(2, 3, 63, 999, 3)", x.held(2, 3, 63, 999, 3), 60);
-            sameGrid("after that", x, 0, 0, 1024, 1024 - 64, 0, 0, 0, -1, 32 * 5 + 32 * 6);
+            sameGrid("after that", x, 0, 0, 1024, 1024 - 64, 0, 0, 1, -1, 32 * 5 + 32 * 6);
             Checks.same("isDead(" + k % 2 + ", 3)", x.isDead(k % 2, 3), false);
-            sameGrid("after that", x, 0, 0, 1024, 1024 - 64, 0, 0, 0, -1, 32 * 5 + 32 * 6);
+            sameGrid("after that", x, 0, 0, 1024, 1024 - 64, 0, 0, 1, -1, 32 * 5 + 32 * 6);
             sameGrid("of another MATTER", x, 1, 3, 256, 256, 0, 0, 0, -1, 0);
         }
     }
