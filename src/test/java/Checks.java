@@ -10,15 +10,31 @@ final class Checks {
 
     private static int looked;
     private static int wrong;
+    private static String sentence = "";
 
     private Checks() {
+    }
+
+    /** The sentence of the document that is looked at from here on: what is not as due is told under it. */
+    static void sentence(String words) {
+        sentence = "[" + words + "] ";
     }
 
     static void same(String what, Object got, Object due) {
         looked++;
         if (!due.equals(got)) {
             wrong++;
-            System.out.println(what + " answered " + got + ", due is " + due);
+            System.out.println(sentence + what + " answered " + got + ", due is " + due);
+        }
+    }
+
+    static boolean isRefused(Object outcome) {
+        return outcome instanceof String name && name.startsWith("java.lang.");
+    }
+
+    static void passTo(OnecodeChancery x, int day) {
+        for (int left = day - x.realm(0); left > 0; left -= 400) {
+            x.pass(Math.min(left, 400));
         }
     }
 
