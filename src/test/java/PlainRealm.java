@@ -5,6 +5,7 @@ import java.util.List;
 import java.util.Map;
 import java.util.Set;
 import java.util.TreeSet;
+import java.util.function.IntUnaryOperator;
 import java.util.regex.Matcher;
 import java.util.regex.Pattern;
 
@@ -481,6 +482,52 @@ final class PlainRealm {
             case 11: return (int) acts.stream().filter(act -> code(act, -1) != byTie(act)).count();
             case 12: return fed.length();
             default: return refused;
+        }
+    }
+
+    // ---- the checksum
+
+    long digest() {
+        List<Integer> values = new ArrayList<>();
+        addAll(values, 14, this::realm);
+        for (int parish = 0; parish < 6; parish++) {
+            values.add(people[parish]);
+            values.addAll(words.get(parish));
+        }
+        for (int k = 0; k < rules.size(); k++) {
+            int rule = k;
+            values.add(ofRule(rule, 5));
+            addAll(values, 5, what -> ofRule(rule, what + 7));
+        }
+        for (int k = 0; k < acts.size(); k++) {
+            int dispute = k;
+            values.add(ofCase(dispute, 4));
+            addAll(values, 8, what -> ofCase(dispute, what + 6));
+        }
+        for (int k = 0; k < articles.size(); k++) {
+            int article = k;
+            addAll(values, 13, what -> ofArticle(article, what));
+            addAll(values, 4, faction -> liking(faction, article));
+        }
+        for (int k = 0; k < 4; k++) {
+            int faction = k;
+            addAll(values, 9, what -> ofFaction(faction, what));
+        }
+        addAll(values, 4, judge -> ways[judge]);
+        for (int k = 0; k < 4; k++) {
+            int matter = k;
+            addAll(values, 7, what -> grid(matter, 0, what));
+        }
+        addAll(values, 4, this::gain);
+        addAll(values, 4, what -> held(0, 0, 0, 100, what));
+        values.add((int) (64 * uniformity()));
+        values.add(1);
+        return values.stream().mapToLong(v -> v).reduce(4099, (d, v) -> d * 31 + v);
+    }
+
+    private static void addAll(List<Integer> values, int count, IntUnaryOperator answer) {
+        for (int k = 0; k < count; k++) {
+            values.add(answer.applyAsInt(k));
         }
     }
 }
